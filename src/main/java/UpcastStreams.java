@@ -424,6 +424,7 @@ public final class UpcastStreams {
                 case RETYPE:
                     coming.put(k, next, a, b);
                     break;
+                case DROP:
                 default:
                     break;
             }
@@ -486,8 +487,10 @@ public final class UpcastStreams {
                     return open && !frozen;
                 case THAWING:
                     return frozen;
-                default:
+                case CLOSING:
                     return open && !frozen && balance == 0;
+                default:
+                    return false;
             }
         }
 
@@ -510,8 +513,10 @@ public final class UpcastStreams {
                 case THAWING:
                     frozen = false;
                     break;
-                default:
+                case CLOSING:
                     open = false;
+                    break;
+                default:
                     break;
             }
         }

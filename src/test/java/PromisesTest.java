@@ -553,6 +553,11 @@ public final class PromisesTest {
         CHECK.due("load", x.load(0, 4), 0);
         CHECK.due("balance", x.field(BALANCE), 9);
         dueSnapshots(x, 0, 6, 4);
+        store(x, 0, 3, 3, 0, 0);
+        CHECK.due("from a frozen one", x.load(0, 8), 0);
+        dueFields(x, 1, 1, 50, 27, 27, 8, 0);
+        CHECK.due("from one that is not", x.load(0, 7), 1);
+        dueFields(x, 1, 0, 50, 27, 27, 7, 0);
     }
 
     private static void loadThrows() {
