@@ -1,19 +1,7 @@
 import java.util.NoSuchElementException;
 
 /** Each promise of the document by itself: ordinary inputs, the edges it names, and wrong inputs. */
-public final class PromisesTest {
-    private static final Check CHECK = new Check();
-    private static final int ANY = UpcastStreams.ANY;
-    private static final int NONE = UpcastStreams.NONE;
-    private static final int MIN = Integer.MIN_VALUE;
-    private static final int MAX = Integer.MAX_VALUE;
-
-    private static final int BALANCE = 3;
-    private static final int TOP = 4;
-    private static final int MOVES = 5;
-    private static final int ODD = 6;
-    private static final int CHECKSUM = 7;
-
+public final class PromisesTest extends Kit {
     public static void main(String[] args) {
         newObject();
         periods();
@@ -51,55 +39,6 @@ public final class PromisesTest {
         cursor();
         hand();
         CHECK.end();
-    }
-
-    /** Stages one event for every four numbers: type, form, a, b. */
-    private static void stageAll(UpcastStreams x, int... events) {
-        for (int i = 0; i < events.length; i += 4) {
-            boolean staged = x.stage(events[i], events[i + 1], events[i + 2], events[i + 3]);
-            CHECK.due("stage of event " + i / 4, staged, true);
-        }
-    }
-
-    private static int store(UpcastStreams x, int stream, int... events) {
-        stageAll(x, events);
-        return x.commit(stream, ANY);
-    }
-
-    /** Stores so many events one by one in a new stream; freezing and thawing in turn always fits. */
-    private static void fill(UpcastStreams x, int stream, int count) {
-        store(x, stream, 0, 3, 0, 0);
-        for (int i = 1; i < count; i++) {
-            store(x, stream, i % 2 == 1 ? 3 : 4, 3, 0, 0);
-        }
-    }
-
-    private static void dueFields(UpcastStreams x, long... want) {
-        for (int i = 0; i < want.length; i++) {
-            CHECK.due("field(" + i + ")", x.field(i), want[i]);
-        }
-    }
-
-    private static void dueHand(UpcastStreams x, int... want) {
-        for (int i = 0; i < want.length; i++) {
-            CHECK.due("hand(" + i / 5 + ", " + i % 5 + ")", x.hand(i / 5, i % 5), want[i]);
-        }
-        CHECK.dueThrow("hand behind the last", NoSuchElementException.class, () -> x.hand(want.length / 5, 0));
-    }
-
-    private static void dueStored(UpcastStreams x, int p, int... want) {
-        for (int i = 0; i < want.length; i++) {
-            CHECK.due("stored(" + p + ", " + i + ")", x.stored(p, i), want[i]);
-        }
-    }
-
-    private static void dueSnapshots(UpcastStreams x, int stream, int later, int earlier) {
-        CHECK.due("snapshot(" + stream + ", 0)", x.snapshot(stream, 0), later);
-        CHECK.due("snapshot(" + stream + ", 1)", x.snapshot(stream, 1), earlier);
-    }
-
-    private static String told(Check.Call call) {
-        return Check.told(call);
     }
 
     private static void newObject() {
@@ -424,20 +363,6 @@ public final class PromisesTest {
         CHECK.due("poll", x.poll(0, 1), 0);
     }
 
-    /** What comes of one event of form 1 (or 2), by one rule. */
-    private static void dueComing(int form, int kind, int k, int a, int b, int... typeAB) {
-        UpcastStreams x = new UpcastStreams(8);
-        store(x, 6, 0, form, a, b);
-        x.learn(0, form, kind, k);
-        x.follow(3, 1 << 6, 63, 0);
-        String call = "form " + form + ", kind " + kind + ", k " + k + ", a " + a;
-        CHECK.due(call + ": comes", x.comes(0), typeAB.length / 3);
-        CHECK.due(call + ": poll", x.poll(3, 4), typeAB.length / 3);
-        for (int i = 0; i < typeAB.length; i++) {
-            CHECK.due(call + ": hand(" + i / 3 + ", " + (i % 3 + 2) + ")", x.hand(i / 3, i % 3 + 2), typeAB[i]);
-        }
-    }
-
     private static void kinds() {
         CHECK.begin("rules");
         for (int form = 1; form <= 2; form++) {
@@ -649,13 +574,6 @@ public final class PromisesTest {
         for (int wrong : new int[] {-1, 2, MIN, MAX}) {
             CHECK.due("snapshot(0, " + wrong + ")", x.snapshot(0, wrong), NONE);
         }
-    }
-
-    private static String followed(UpcastStreams x, int reader, int streams, int types, int from) {
-        return told(() -> {
-            x.follow(reader, streams, types, from);
-            return 0;
-        });
     }
 
     private static void follow() {
