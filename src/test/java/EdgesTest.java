@@ -40,6 +40,7 @@ public final class EdgesTest extends Kit {
         commitOfNothingThatComes();
         commitKeepsARefusedBatch();
         commitLoadsAtTheVersion();
+        commitLooksAtTheBatchAlone();
         commitThrowsForNoSuchStream();
         commitThrowsForAnEmptyBatch();
         commitThrowsForAnotherVersion();
@@ -56,6 +57,7 @@ public final class EdgesTest extends Kit {
         noSnapshotBetweenPeriods();
         snapshotsGoByTheStreamsVersion();
         aSnapshotHoldsTheStateWithTheBatch();
+        aSnapshotHoldsWhatIsOdd();
         noSnapshotOfARefusedBatch();
     }
 
@@ -385,6 +387,17 @@ public final class EdgesTest extends Kit {
         }
     }
 
+    private static void commitLooksAtTheBatchAlone() {
+        CHECK.begin("4: what is odd in the stream already is no event of the batch");
+        UpcastStreams x = new UpcastStreams(8);
+        store(x, 0, 0, 3, 10, 0, 1, 1, 5, 0);
+        x.learn(1, 1, 2, -1);
+        CHECK.due("just what the limit leaves", store(x, 0, 2, 3, 4, 0, 2, 3, 6, 0), 4);
+        CHECK.due("one more", store(x, 0, 1, 3, 0, 0, 2, 3, 1, 0), -2);
+        x.unstage();
+        CHECK.due("the event that is odd now would be refused now", store(x, 0, 1, 1, 5, 0), -1);
+    }
+
     private static void commitThrowsForNoSuchStream() {
         CHECK.begin("4: IllegalArgumentException: there is no such stream");
         UpcastStreams x = new UpcastStreams(8);
@@ -563,6 +576,21 @@ public final class EdgesTest extends Kit {
         dueFields(x, 1, 0, 5, -5, 7, 5, 0);
         CHECK.due("load at the earlier one", x.load(0, 3), 0);
         dueFields(x, 1, 1, 5, 7, 7, 3, 0, snapshotCheck());
+    }
+
+    private static void aSnapshotHoldsWhatIsOdd() {
+        CHECK.begin("4: a snapshot of the state, ODD too");
+        UpcastStreams x = new UpcastStreams(3);
+        store(x, 0, 0, 3, 10, 0, 1, 1, 5, 0);
+        x.learn(1, 1, 2, -1);
+        store(x, 0, 2, 3, 10, 0);
+        dueSnapshots(x, 0, 3, NONE);
+        x.load(1, 0);
+        CHECK.due("load", x.load(0, 3), 0);
+        dueFields(x, 1, 0, 10, -10, 0, 2, 1);
+        store(x, 0, 1, 3, 1, 0);
+        CHECK.due("load on from it", x.load(0, 4), 1);
+        dueFields(x, 1, 0, 10, -9, 0, 3, 1);
     }
 
     private static long snapshotCheck() {
